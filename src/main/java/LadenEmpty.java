@@ -701,13 +701,12 @@ public final class LadenEmpty {
             return token == END || failWith(MISPLACED);
         }
 
+        // No ACT is ever done in the draft: its gates, and STEPS gone, are 0 from the first.
         void clearDraft() {
             draft.isTold = true;
             draft.crossings = 0;
             draft.carriers = 0;
             draft.loads = 0;
-            draft.now.gates = 0;
-            draft.now.gone = 0;
         }
 
         boolean readCrossing() {

@@ -4,7 +4,7 @@ import java.util.Random;
 
 /** Promises 7, 9 to 25, 30: runs by chance (always the same ones), compared with Model. */
 final class RandomRunsTest {
-    private static final int RUNS = 400, ACTS = 60, MOST_CALLS = 512;
+    private static final int RUNS = 1000, ACTS = 60, MOST_CALLS = 512;
 
     private final Random random;
     private final int run;
@@ -34,6 +34,11 @@ final class RandomRunsTest {
         return random.nextInt(most + 1);
     }
 
+    // Mostly the number of one that there is, of n, at times of one that there is not.
+    private int oneOf(int n) {
+        return n > 0 && upTo(9) > 0 ? upTo(n - 1) : upTo(8) - 1;
+    }
+
     private String blank() {
         return random.nextInt(4) == 0 ? "\n" : "";
     }
@@ -52,12 +57,12 @@ final class RandomRunsTest {
             text.append("crossing ").append(sort).append(blank()).append(a).append(' ').append(b).append(' ')
                 .append(ways.get(i).steps()).append(blank()).append(';');
         }
-        int[][] carriers = new int[upTo(3)][];
+        int[][] carriers = new int[upTo(6) == 0 ? 0 : 1 + upTo(2)][];
         for (int c = 0; c < carriers.length; c++) {
             carriers[c] = new int[] {upTo(towns), random.nextInt(1 << n)};
             text.append(blank()).append("carrier").append(carriers[c][0]).append(' ').append(carriers[c][1]).append(';');
         }
-        int[][] loads = new int[upTo(4)][];
+        int[][] loads = new int[upTo(6) == 0 ? 0 : 1 + upTo(3)][];
         for (int l = 0; l < loads.length; l++) {
             loads[l] = new int[] {upTo(towns), upTo(towns)};
             text.append("load ").append(loads[l][0]).append(blank()).append(' ').append(loads[l][1]).append(" ;");
@@ -76,29 +81,41 @@ final class RandomRunsTest {
         }
         walk();
         foretell();
+        Due.due("run " + run + ": more calls than are promised", Math.max(calls, MOST_CALLS), MOST_CALLS);
     }
 
     private void act() {
-        int c = upTo(3) - upTo(1) * upTo(1);
-        int o = upTo(6);
+        int c = oneOf(model.count(2));
+        int to = oneOf(model.count(2));
+        int x0 = oneOf(model.count(1));
+        int l = oneOf(model.count(3));
         switch (upTo(30)) {
             case 0: due("feast()", x.feast(), model.feast()); break;
-            case 1: due("put(" + o + ", 0)", x.put(o, 0), model.put(o, 0)); break;
-            case 2: case 3: due("put(" + o + ", 1)", x.put(o, 1), model.put(o, 1)); break;
-            case 4: case 5: undo(); break;
-            case 6: due("hand(" + c + ", " + o + ")", x.hand(c, o % 4), model.hand(c, o % 4)); break;
+            case 1: put(x0, upTo(1)); break;
+            case 2: put(x0, 1); break;
+            case 3: case 4: undo(); break;
+            case 5: case 6: due("hand(" + c + ", " + to + ")", x.hand(c, to), model.hand(c, to)); break;
             case 7: case 8: due("lay(" + c + ")", x.lay(c), model.lay(c)); break;
             case 9: image(); break;
             case 10: restore(); break;
-            case 11: foretellOne(c, o); break;
+            case 11: foretellOne(c, x0, l); break;
             case 12: case 13: case 14: case 15: case 16:
-                due("take(" + c + ", " + o + ")", x.take(c, o % 4), model.take(c, o % 4)); break;
-            case 17:
-                if (upTo(3) == 0) {
-                    tellLand();
-                }
+                due("take(" + c + ", " + l + ")", x.take(c, l), model.take(c, l));
                 break;
-            default: due("go(" + c + ", " + o + ")", x.go(c, o), model.go(c, o)); break;
+            case 17: tellLandAtTimes(); break;
+            default:
+                due("go(" + c + ", " + x0 + ")", x.go(c, x0), model.go(c, x0));
+                break;
+        }
+    }
+
+    private void put(int crossing, int is) {
+        due("put(" + crossing + ", " + is + ")", x.put(crossing, is), model.put(crossing, is));
+    }
+
+    private void tellLandAtTimes() {
+        if (upTo(3) == 0) {
+            tellLand();
         }
     }
 
@@ -121,20 +138,22 @@ final class RandomRunsTest {
     }
 
     private void look() {
-        int c = upTo(3);
-        int what = upTo(4);
+        int c = oneOf(model.count(2));
+        int l = oneOf(model.count(3));
+        int what = oneOf(4);
         due("carrier(" + c + ", " + what + ")", x.carrier(c, what), model.carrier(c, what));
-        due("load(" + c + ", " + what + ")", x.load(c, what), model.load(c, what));
+        due("load(" + l + ", " + what + ")", x.load(l, what), model.load(l, what));
         int counted = 1 + upTo(5);
         due("count(" + counted + ")", x.count(counted), model.count(counted));
     }
 
-    private void foretellOne(int c, int o) {
-        due("fewest(" + c + ", " + o + ")", x.fewest(c, o), model.fewest(c, o));
-        due("whom(" + o + ")", x.whom(o), model.whom(o));
-        due("off(" + c + ", " + o + ")", x.off(c, o), model.off(c, o));
+    private void foretellOne(int c, int crossing, int l) {
+        int town = oneOf(6);
+        due("fewest(" + c + ", " + l + ")", x.fewest(c, l), model.fewest(c, l));
+        due("whom(" + l + ")", x.whom(l), model.whom(l));
+        due("off(" + c + ", " + town + ")", x.off(c, town), model.off(c, town));
         due("reach(" + c + ")", x.reach(c), model.reach(c));
-        due("right(" + c + ", " + o + ")", x.right(c, o), model.right(c, o));
+        due("right(" + c + ", " + crossing + ")", x.right(c, crossing), model.right(c, crossing));
     }
 
     private void walk() {

@@ -49,10 +49,12 @@ final class RowsTest {
         Due.due("2: the new lane", x.set(7, 2, 70000), 4464);
         Due.due("2: the new size", x.set(7, 3, 1), Due.PLACE);
         Due.row(x, 6, 1, 9, 9, 9);
-        Due.tell(x, "crossing ford 0 1 1;");
+        Due.tell(x, "crossing bridge 0 1 1;crossing bridge 0 1 1;");
         Due.due("2: such items are none", x.walk(6, 3, 2), Due.BAD);
         x.row(6, 1, 3);
-        Due.due("2: items are 0 at first", x.walk(6, 3, 2), Due.NONE);
+        Due.due("2: items are 0 at first", x.walk(6, 1, 0), 2);
+        Due.due("2: empty over crossing 0", x.walk(6, 1, 1), 0);
+        Due.due("2: and again", x.walk(6, 3, 2), 1);
     }
 
     private static void set() {

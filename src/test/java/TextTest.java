@@ -8,6 +8,8 @@ final class TextTest {
         faults();
         sortsThatAreFull();
         whatStays();
+        bytesOfAnotherTape();
+        fullTape();
         Due.end();
     }
 
@@ -80,6 +82,13 @@ final class TextTest {
         faulty("Crossing ford 0 1 1;", 1, 0);
         faulty("crossings ford 0 1 1;", 1, 0);
         faulty("crossingford 0 1 1;", 1, 0);
+        faulty("crossingz ford 0 1 1;", 1, 0);
+        faulty("drossing ford 0 1 1;", 1, 0);
+        faulty("zcrossing ford 0 1 1;", 1, 0);
+        faulty("crossing{ford 0 1 1;", 1, 8);
+        faulty("crossing`ford 0 1 1;", 1, 8);
+        faulty("crossing ford/0 1 1;", 1, 13);
+        faulty("crossing ford:0 1 1;", 1, 13);
         faulty("crossin ford 0 1 1;", 1, 0);
         faulty("crossing", 1, 8);
         faulty("crossing ", 1, 9);
@@ -164,5 +173,27 @@ final class TextTest {
         Due.due("7: all are up", x.put(0, 1), 1);
         Due.due("7: a fault of a number", Due.tell(x, "crossing ford 9"), -1000114);
         Due.due("8: the latest of two", x.fault(), 2);
+    }
+
+    // What an earlier tape had behind the end of this one is none of its bytes.
+    private static void bytesOfAnotherTape() {
+        LadenEmpty x = new LadenEmpty();
+        Due.due("7: blanks", Due.tell(x, "x          "), -1000100);
+        Due.due("7: fewer blanks", Due.tell(x, "  "), -1000102);
+        Due.due("7: 19 steps", Due.tell(x, "crossing ford 0 1 19"), -1000118);
+        Due.due("7: 1 step, the end", Due.tell(x, "crossing ford 0 1 1"), -1000119);
+        Due.due("7: for", Due.tell(x, "crossing for"), -1000109);
+        Due.due("7: not even that", Due.tell(x, ""), -1000100);
+    }
+
+    private static void fullTape() {
+        LadenEmpty x = new LadenEmpty();
+        String blanks = " \n  ".repeat(95);
+        Due.due("7: 400 bytes", Due.tell(x, blanks + FORD), 1);
+        Due.due("7: blanks to the end", Due.tell(x, FORD + blanks), 1);
+        Due.due("7: a name at the end", Due.tell(x, blanks + FORD.replace(';', 'z')), -1000499);
+        Due.due("7: a number at the end", Due.tell(x, blanks + "crossing fordy 0 1 1"), -1000489);
+        Due.due("7: no sign at the end", Due.tell(x, blanks + "crossing ford  0 1 1"), -1000500);
+        Due.due("7: blanks alone", Due.tell(x, blanks + " ".repeat(20)), -1000500);
     }
 }

@@ -5,6 +5,7 @@ final class ForetoldTest {
     public static void main(String[] args) {
         fewest();
         fewestByLayingInTheMiddle();
+        oneBehindTheOther();
         whom();
         off();
         right();
@@ -53,6 +54,14 @@ final class ForetoldTest {
         z.feast();
         Due.due("18: a gate that is turned", z.fewest(0, 0), 1);
         Due.due("18: gates stay", z.count(6), 1);
+    }
+
+    // The first answer is found ahead of the tenth step, behind which he would be in town 0 by the bridge.
+    private static void oneBehindTheOther() {
+        LadenEmpty x = Due.told("crossing ford 2 1 1;crossing bridge 1 0 9;crossing ford 1 0 1;"
+            + "carrier 2 0;carrier 5 0;load 0 1;");
+        Due.due("18: by the fords", x.fewest(0, 0), 3);
+        Due.due("18: stuck, whatever was asked ahead", x.fewest(1, 0), NONE);
     }
 
     private static void whom() {

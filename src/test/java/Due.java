@@ -1,3 +1,5 @@
+import java.util.function.IntUnaryOperator;
+
 /** What the tests share: counting wrong answers, and telling a text to an object. */
 final class Due {
     static final int NONE = -1000000, BAD = -1000001, STATE = -1000002, FULL = -1000003;
@@ -12,6 +14,14 @@ final class Due {
         if (got != want) {
             wrong++;
             System.out.println(what + " answered " + got + ", due is " + want);
+        }
+    }
+
+    /** Every number ahead of the first that is well, and behind the last, has this one answer. */
+    static void outside(String what, int first, int last, int want, IntUnaryOperator call) {
+        int[] numbers = {first - 1, last + 1, Integer.MIN_VALUE, Integer.MAX_VALUE, NONE};
+        for (int number : numbers) {
+            due(what + " " + number, call.applyAsInt(number), want);
         }
     }
 

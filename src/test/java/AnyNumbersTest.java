@@ -15,19 +15,34 @@ final class AnyNumbersTest {
     private static Random random;
 
     public static void main(String[] args) {
-        for (int run = 0; run < 300; run++) {
+        for (int run = 0; run < 2000; run++) {
             random = new Random(run);
             LadenEmpty x = new LadenEmpty();
             Due.tell(x, LANDS[run % LANDS.length]);
-            for (int i = 0; i < 400; i++) {
-                int[] ahead = counts(x);
-                int call = random.nextInt(29);
-                if (call(x, call) == Due.BAD) {
-                    unchanged("run " + run + ", a BAD call of sort " + call, ahead, counts(x));
-                }
+            if (run % 2 == 0) {
+                comparedCalls(x, run);
+            } else {
+                manyCalls(x);
             }
         }
         Due.end();
+    }
+
+    // Each takes up to 19 calls, as all counts are asked twice: with the land they stay below 512.
+    private static void comparedCalls(LadenEmpty x, int run) {
+        for (int i = 0; i < 24; i++) {
+            int[] ahead = counts(x);
+            int call = random.nextInt(29);
+            if (call(x, call) == Due.BAD) {
+                unchanged("run " + run + ", a BAD call of sort " + call, ahead, counts(x));
+            }
+        }
+    }
+
+    private static void manyCalls(LadenEmpty x) {
+        for (int i = 0; i < 470; i++) {
+            call(x, random.nextInt(29));
+        }
     }
 
     private static int any() {
